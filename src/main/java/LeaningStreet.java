@@ -221,9 +221,10 @@ public final class LeaningStreet {
         if (thinkOf(now).firstFall(n) == 0) {
             return 0;
         }
+        int helped = thought.crackedSince(now);
         for (int more = 1; more <= MOST[PROP]; more++) {
             for (int k = 0; k < now.many; k++) {
-                if (isEnough(k, more, n)) {
+                if ((helped >> k & 1) == 1 && isEnough(k, more, n)) {
                     return 10 * k + more;
                 }
             }
@@ -332,7 +333,8 @@ public final class LeaningStreet {
         if (text < 0 || text >= now.texts || what < 0 || what > 1) {
             return BAD;
         }
-        return what == 0 ? now.allTexts[text].key : now.allTexts[text].pieces;
+        Text asked = now.allTexts[text];
+        return asked == null ? BAD : what == 0 ? asked.key : asked.pieces;
     }
 
     public int why(int key) {
@@ -770,8 +772,12 @@ public final class LeaningStreet {
             for (int k = 0; k < other.many; k++) {
                 houses[k].beLike(other.houses[k]);
             }
-            System.arraycopy(other.allTexts, 0, allTexts, 0, TEXTS);
-            System.arraycopy(other.counting, 0, counting, 0, KEYS);
+            for (int i = 0; i < other.texts; i++) {
+                allTexts[i] = other.allTexts[i];
+            }
+            for (int key = 0; key < KEYS; key++) {
+                counting[key] = other.counting[key];
+            }
             many = other.many;
             texts = other.texts;
             snow = other.snow;
@@ -808,7 +814,7 @@ public final class LeaningStreet {
         }
 
         void addText(Text text) {
-            if (texts >= TEXTS) {
+            if (texts >= TEXTS || text.key < 0 || text.key >= KEYS) {
                 return;
             }
             allTexts[texts] = text;
@@ -972,6 +978,17 @@ public final class LeaningStreet {
             int set = 0;
             for (int k = 0; k < many; k++) {
                 if (houses[k].stands) {
+                    set |= 1 << k;
+                }
+            }
+            return set;
+        }
+
+        /** Those that did not HOLD on some DAY since; PROPS on another one would have changed nothing. */
+        int crackedSince(Street before) {
+            int set = 0;
+            for (int k = 0; k < many && k < before.many; k++) {
+                if (houses[k].crack > before.houses[k].crack) {
                     set |= 1 << k;
                 }
             }

@@ -233,6 +233,10 @@ public final class PromisesTest {
         x.set(2, 4, 100);
         due(12, "again and again, both ways", x.days(1), 5);
         due(12, "the church bears the last", x.street(1), 32);
+        x = streetOf(new int[] {5, 1, 0, 0}, new int[] {5, 1, -20, 0}, new int[] {5, 1, -19, 0});
+        x.set(0, 4, 100);
+        due(12, "on the first", x.days(1), 2);
+        due(12, "-19 stands", x.street(1), 4);
         x = streetOf(new int[] {5, 1, -20, 0}, new int[] {5, 1, 20, 0}, new int[] {5, 1, 0, 0}, new int[] {5, 1, 0, 0});
         x.fells(2);
         due(12, "one fallen long ago takes none with it", x.days(3), 0);
@@ -248,8 +252,19 @@ public final class PromisesTest {
         due(12, "it holds with just as much", x.days(100), 0);
         due(12, "crack 99 stands", x.street(2), 99);
         x.snow(-6);
-        due(12, "crack 100 falls", x.days(1), 1);
+        due(12, "crack 100 falls, by -1", x.days(1), 1);
         due(12, "lean 1 less", x.told(0, 2), -1);
+        x = streetOf(new int[] {0, 1, 0, 0});
+        x.snow(1);
+        x.days(1);
+        due(12, "thrust 1: lean 1 more", x.told(0, 2), 1);
+        x.snow(-1);
+        x.days(2);
+        due(12, "thrust -1: lean 1 less", x.told(0, 2), -1);
+        due(12, "by 1 a day", x.told(0, 4), 3);
+        x.set(0, 2, -50);
+        x.days(1);
+        due(12, "-50 at least", x.told(0, 2), -50);
         x = streetOf(new int[] {0, 99, 50, 99}, new int[] {0, 1, 0, 0});
         x.set(1, 4, 900);
         due(12, "falls, and what leans on it", x.days(1), 2);
@@ -374,6 +389,16 @@ public final class PromisesTest {
         due(17, "no one house alone", x.propped(2), NONE);
         x.set(1, 4, 0);
         due(17, "the house with the fewest", x.propped(2), 21);
+        x = streetOf(new int[] {0, 1, 0, 10}, new int[] {0, 50, -20, 99});
+        due(17, "nine more, on the first", x.propped(40), 9);
+        x.set(0, 5, 1);
+        x.set(0, 3, 0);
+        due(17, "ten would be", x.propped(40), NONE);
+        x = streetOf(new int[] {0, 1, 0, 0}, new int[] {5, 1, 0, 0}, new int[] {0, 1, 0, 0});
+        x.snow(10);
+        x.set(2, 4, 99);
+        due(17, "of the second that falls later, none alone", x.propped(10), NONE);
+        due(17, "while the first stands yet", x.propped(9), 21);
     }
 
     private static void wall() {
@@ -434,6 +459,9 @@ public final class PromisesTest {
         due(20, "places beyond all houses: 0", x.began(0, 2, 1), 0);
         due(20, "now", x.began(0, 0, 1), 40);
         due(20, "now: the least", x.began(0, 0, 0), 0);
+        x.set(0, 4, 50);
+        due(20, "the first place counts", x.began(0, 2, 1), 50);
+        x.set(0, 4, 0);
         due(20, "only thought", x.told(2, 3), 99);
         x.sheet(1, 0, 0);
         due(20, "no places", x.began(1, 60, 1), 0);
@@ -498,7 +526,8 @@ public final class PromisesTest {
             {"push 1<2<3", 8}, {"push 1<2=3", 8}, {"push (1<2", 9}, {"push 1)", 6}, {"push ()", 6}, {"push 1!", 6}, {"push !", 6},
             {"push 1 !2", 7}, {"push 1(2)", 6}, {"push (1)2", 8}, {"push 1&&2", 7}, {"push 1#", 6}, {"push \u00e9", 5}, {"push \u00001", 5},
             {"push (" + open + "1" + shut + ")", 13}, {"push !" + nots + "1", 13}, {"push " + nots + "(!1)", 14}, {"push 1-", 7}, {"push W", 5},
-            {"push push 1", 5}, {"fee\t1", 3}};
+            {"push push 1", 5}, {"fee\t1", 3}, {"push z1", 5}, {"push 1z", 6}, {"push 9z9", 6}, {"push 1{", 6}, {"push 1`", 6}, {"push 1:", 6},
+            {"push 1a", 6}, {"pushz 1", 0}, {"pusha 1", 0}, {"push{1", 4}, {"push 9:", 6}, {"push 0 0", 7}};
         for (Object[] a : all) {
             LeaningStreet x = new LeaningStreet();
             due(25, "fault of '" + a[0] + "'", textOf(x, (String) a[0]), -100 - (Integer) a[1]);
@@ -538,6 +567,20 @@ public final class PromisesTest {
         textOf(x, "push c-w");
         due(25, "0 at least", x.told(0, 7), 0);
         due(25, "brick: and 4", x.told(1, 7), 4);
+        textOf(x, "push 7");
+        x.set(1, 2, 0);
+        due(3, "lean 0 pushes to no side, down", x.told(0, 9), 0);
+        x.set(1, 2, 1);
+        due(3, "lean 1 pushes not down", x.told(0, 9), 0);
+        x.set(1, 2, -1);
+        due(3, "lean -1 does", x.told(0, 9), -11);
+        x.set(0, 2, 0);
+        due(3, "lean 0 pushes to no side, up", x.told(1, 9), 0);
+        x.set(0, 2, 1);
+        due(3, "lean 1 does", x.told(1, 9), 7);
+        x.set(0, 2, -20);
+        x.set(1, 2, -20);
+        due(13, "the first does not hold", x.street(4), 1);
         textOf(x, "push c");
         x.set(1, 4, 1);
         x.days(1);
