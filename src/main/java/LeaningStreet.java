@@ -834,11 +834,13 @@ public final class LeaningStreet {
             return changed;
         }
 
+        /** Beyond all HOUSES there is no CRACK; a number there is held against 0. */
         int differsFrom(Row row) {
             int differs = 0;
-            for (int k = 0; k < many && k < row.many; k++) {
+            for (int k = 0; k < row.many; k++) {
                 if (row.isNumber(k)) {
-                    differs += Math.abs(houses[k].crack - row.places[k]);
+                    int crack = k < many ? houses[k].crack : 0;
+                    differs += Math.abs(crack - row.places[k]);
                 }
             }
             return differs;

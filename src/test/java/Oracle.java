@@ -329,7 +329,7 @@ final class Oracle {
                     int differs = 0;
                     for (int p = 0; p < sheets[a[0]].length; p++) {
                         int v = sheets[a[0]][p];
-                        if (v != NONE && p < many) differs += Math.abs(v - s.houses.get(p)[4]);
+                        if (v != NONE) differs += Math.abs(v - (p < many ? s.houses.get(p)[4] : 0));
                     }
                     if (best == NONE || differs <= least) {
                         best = k;

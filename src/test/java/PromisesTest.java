@@ -456,7 +456,9 @@ public final class PromisesTest {
         x.mark(0, 1, NONE);
         due(20, "of numbers alone", x.began(0, 2, 1), 0);
         x.mark(0, 3, 500);
-        due(20, "places beyond all houses: 0", x.began(0, 2, 1), 0);
+        due(20, "places beyond all houses: held against 0", x.began(0, 2, 1), 500);
+        x.mark(0, 3, NONE);
+        due(20, "places beyond all houses: numbers alone", x.began(0, 2, 1), 0);
         due(20, "now", x.began(0, 0, 1), 40);
         due(20, "now: the least", x.began(0, 0, 0), 0);
         x.set(0, 4, 50);
@@ -473,6 +475,30 @@ public final class PromisesTest {
         due(20, "missing ahead of none", none.began(0, 0, 0), NOTHING);
         none.sheet(0, 0, 1);
         due(20, "no houses", none.began(0, 0, 1), NONE);
+    }
+
+    private static void beganBeyondHouses() {
+        LeaningStreet x = streetOf(new int[] {0, 20, 10, 99}, new int[] {0, 1, 0, 99});
+        x.sheet(0, 1, 24);
+        x.mark(0, 1, 40);
+        int[] numbers = {500, -500, 99999, -99999, 0};
+        for (int v : numbers) {
+            x.mark(0, 2, v);
+            due(20, "beyond all houses: the number without its sign", x.began(0, 2, 1), Math.abs(v));
+            due(20, "beyond all houses: the house is the same", x.began(0, 2, 0), 1);
+        }
+        for (int place = 2; place < 24; place++) x.mark(0, place, place % 2 == 0 ? 99999 : -99999);
+        due(20, "beyond all houses: each place", x.began(0, 2, 1), 22 * 99999);
+        for (int place = 2; place < 23; place++) x.mark(0, place, NONE);
+        due(20, "beyond all houses: numbers alone", x.began(0, 2, 1), 99999);
+        x.sheet(1, 0, 24);
+        for (int place = 2; place < 24; place++) x.mark(1, place, -32768);
+        due(20, "beyond all houses: shorts", x.began(1, 0, 1), 22 * 32768);
+        x.house(5, 1, 0, 0);
+        x.set(2, 4, 10);
+        due(20, "one house more: its crack, not 0", x.began(1, 0, 1), 22 * 32768 + 10);
+        x.fells(2);
+        due(20, "one that is fallen is a house", x.began(1, 0, 1), 22 * 32768 + 10);
     }
 
     private static void feeAndFine() {
@@ -915,6 +941,7 @@ public final class PromisesTest {
         wall();
         snows();
         began();
+        beganBeyondHouses();
         feeAndFine();
         feedAndTrim();
         faults();
