@@ -347,6 +347,29 @@ public final class PromisesTest {
         due(15, "it holds", x.lasts(), NONE);
     }
 
+    /**
+     * One house cracks by 1 a day at a time, and each sets the next one going and is stopped by it: 5, then 4,
+     * then (by 3) 2, then (by 1) 0; so the first one falls on day 313, far behind the 300 that are looked at.
+     */
+    private static void lastsLongest() {
+        LeaningStreet x = streetOf(new int[] {3, 1, 50, 24}, new int[] {0, 30, 1, 84}, new int[] {0, 51, -50, 49},
+            new int[] {0, 10, -50, 19}, new int[] {0, 10, 1, 84}, new int[] {0, 51, -50, 29});
+        x.snow(20);
+        due(25, "the law", textOf(x, "push (c<97|c>98)*(w+(c>0)*14+(l>19)*6+(w>50&c>46)*40)"), 0);
+        due(15, "313", x.lasts(), NONE);
+        due(12, "12 days", x.days(12), 0);
+        due(15, "301", x.lasts(), NONE);
+        due(12, "13 days", x.days(1), 0);
+        due(15, "300", x.lasts(), 300);
+        due(12, "14 days", x.days(1), 0);
+        due(15, "299", x.lasts(), 299);
+        for (int i = 0; i < 2; i++) due(12, "no one falls", x.days(100), 0);
+        due(12, "nor yet", x.days(98), 0);
+        due(15, "tomorrow", x.lasts(), 1);
+        due(12, "the first one, and what leans on it", x.days(1), 2);
+        due(13, "they are 0 and 1", x.street(1), 60);
+    }
+
     private static void taken() {
         LeaningStreet x = streetOf(new int[] {0, 53, 19, 99}, new int[] {0, 10, 0, 99}, new int[] {0, 1, 0, 50}, new int[] {0, 1, 0, 0});
         due(16, "the one behind it falls by the push", x.taken(1, 2), 4);
@@ -936,6 +959,7 @@ public final class PromisesTest {
         street();
         behind();
         lasts();
+        lastsLongest();
         taken();
         propped();
         wall();
