@@ -1,4 +1,7 @@
+import java.io.IOException;
 import java.lang.reflect.Method;
+import java.nio.file.Files;
+import java.nio.file.Path;
 import java.util.HashMap;
 import java.util.Map;
 import java.util.regex.Matcher;
@@ -18,6 +21,7 @@ final class Runs {
     private static final int MOST_CALLS = 512;
     private static final Map<String, Method> METHODS = new HashMap<>();
     private static int wrong = 0;
+    private static String document = null;
 
     private final String name;
     private LeaningStreet street = new LeaningStreet();
@@ -33,7 +37,22 @@ final class Runs {
 
     /** A sentence of the document, and a run that would go otherwise if it did not hold. */
     static void says(String place, String sentence, String run) {
+        isInTheDocument(sentence);
         new Runs(place + " '" + sentence + "'").go(run);
+    }
+
+    /** A sentence that the document does not say as it is quoted would hide one that has no test. */
+    static void isInTheDocument(String sentence) {
+        try {
+            if (document == null) document = oneLine(Files.readString(Path.of("../shared/DOC.md")));
+        } catch (IOException e) {
+            throw new IllegalStateException("there is no document", e);
+        }
+        if (!document.contains(oneLine(sentence))) due("'" + sentence + "', looked for in the document,", 0, 1);
+    }
+
+    private static String oneLine(String text) {
+        return text.replaceAll("\\s+", " ");
     }
 
     static LeaningStreet made(String run) {
@@ -75,7 +94,7 @@ final class Runs {
             case "SIZE": return -1000000014;
             case "LOW": return Integer.MIN_VALUE;
             case "HIGH": return Integer.MAX_VALUE;
-            default: return Integer.parseInt(word);
+            default: return word.startsWith("0x") ? Integer.parseUnsignedInt(word.substring(2), 16) : Integer.parseInt(word);
         }
     }
 
