@@ -858,23 +858,16 @@ public final class LeaningStreet {
                 thrusts[k] = 0;
                 lesser[k] = last;
                 greater[k] = -1;
-                if (houses[k].stands) {
-                    thrusts[k] = snow;
-                    if (last >= 0) {
-                        lean(last, k);
-                    }
-                    last = k;
+                if (!houses[k].stands) {
+                    continue;
                 }
-            }
-        }
-
-        private void lean(int left, int right) {
-            greater[left] = right;
-            if (houses[left].lean > 0) {
-                thrusts[right] += pushOf(houses[left]);
-            }
-            if (houses[right].lean < 0) {
-                thrusts[left] -= pushOf(houses[right]);
+                thrusts[k] = snow;
+                if (last >= 0) {
+                    greater[last] = k;
+                    thrusts[k] += houses[last].lean > 0 ? pushOf(houses[last]) : 0;
+                    thrusts[last] -= houses[k].lean < 0 ? pushOf(houses[k]) : 0;
+                }
+                last = k;
             }
         }
 

@@ -4,6 +4,16 @@ public final class BoundariesOfTermsTest {
         Runs.says(place, sentence, run);
     }
 
+    private static void theFace() {
+        String[] names = {"BAD", "NO", "FULL", "NONE", "NOTHING", "KIND", "INDEX", "SIZE"};
+        int[] constants = {LeaningStreet.BAD, LeaningStreet.NO, LeaningStreet.FULL, LeaningStreet.NONE, LeaningStreet.NOTHING, LeaningStreet.KIND,
+            LeaningStreet.INDEX, LeaningStreet.SIZE};
+        for (int i = 0; i < names.length; i++) {
+            Runs.isInTheDocument(names[i] + " = " + constants[i]);
+            Runs.due("the constant " + names[i], constants[i], Runs.number(names[i]));
+        }
+    }
+
     private static void terms() {
         says("What it is", "An object is used for at most 512 calls after it has been made", """
             511 * count(7) = 1
@@ -406,6 +416,7 @@ public final class BoundariesOfTermsTest {
     }
 
     public static void main(String[] args) {
+        theFace();
         terms();
         theFirstOfSeveral();
         houses();

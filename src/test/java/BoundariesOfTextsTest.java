@@ -31,6 +31,11 @@ public final class BoundariesOfTextsTest {
             count(4) = 13; text "fine 3" = 13; count(4) = 14; why(2) = 13; textTold(13, 0) = 2; textTold(14, 0) = BAD
             text "push 4" = FULL; count(4) = 14; why(0) = NONE; textTold(14, 0) = BAD; text "fee 5" = FULL; fee() = 2; why(1) = 12
             """);
+        says("25", "THE TAPE is a TEXT: its number. -100 less the place of its FAULT; FULL.", """
+            text() = -100; text "#" = -100; text " #" = -101; text "fee" = -103; text "fine 1" = 0; text "fee 1 1" = -106
+            13 * text "fee 1"
+            text "fee 1" = FULL; text "fee 1 1" = -106; text() = -100; text "fee" = -103
+            """);
         says("39", "AN IMAGE is kept", """
             # with thirteen TEXTS: there is room for one more, each time
             13 * text "fee 1"

@@ -120,6 +120,16 @@ public final class BoundariesOfThoughtsTest {
             """);
     }
 
+    private static void proppedByNone() {
+        says("17", "NONE: no PROPS on one HOUSE are enough", """
+            # it wants 9 PROPS and has none, then 10 and has none, then 1 and has 8, then 1 and has 9
+            house(0, 1, 0, 0); house(0, 1, 0, 0); house(0, 2, -50, 99); set(1, 4, 99); snow(-20); text "push 70"; propped(1) = 19
+            text "push 71"; propped(1) = NONE; text "push 70"; set(1, 5, 8); propped(1) = 11; text "push 71"; set(1, 5, 9); propped(1) = NONE; set(1, 3, 1); propped(1) = 0
+            # one that is FALLEN is propped up by none, and needs none
+            fells(1); propped(1) = 0; set(0, 4, 100); propped(1) = NONE; set(1, 5, 9); propped(1) = NONE
+            """);
+    }
+
     private static void wall() {
         says("18", "WALL for n (1 .. 60)", """
             house(0, 1, 0, 5); snow(1); set(0, 4, 40); wall(59, 1) = 0; wall(60, 1) = 1; wall(61, 1) = BAD; wall(HIGH, 1) = BAD
@@ -207,6 +217,7 @@ public final class BoundariesOfThoughtsTest {
         lasts();
         taken();
         propped();
+        proppedByNone();
         wall();
         snows();
         began();

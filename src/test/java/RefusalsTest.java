@@ -12,7 +12,7 @@ public final class RefusalsTest {
     private static final String SOME = """
         house(0, 10, 20, 30); house(1, 20, -25, 3); house(2, 28, 15, 6); house(3, 37, 30, 9); house(4, 46, -10, 12)
         set(0, 4, 7); set(1, 5, 2); fells(2); snow(3); seed(99)
-        text "push w+l"; text "fine c+p"
+        text "push w+l"; text "fine c+p"; text "fee r*2"
         keep(); days(2); set(0, 1, 11)
         sheet(0, 0, 5); mark(0, 0, 30); mark(0, 3, -7); sheet(1, 1, 6); mark(1, 0, NONE); mark(1, 4, 99999); sheet(3, 1, 0)
         lay(0, 1, 0); lay(1, 2, 1); lay(2, 3, 17); lay(3, 1, 4)
@@ -25,6 +25,15 @@ public final class RefusalsTest {
         14 * text "fee d+3"
         keep(); deal(9); sheet(0, 0, 24); sheet(1, 1, 24); lay(0, 2, 0); lay(1, 2, 1)
         """ + "tell(9); tell(0);".repeat(30) + "tape \"fine " + "(".repeat(91) + "\"\n";
+
+    /** No IMAGE, but something of each other thing. */
+    private static final String UNKEPT = SOME.replace("keep();", "");
+    /** One HOUSE that neither PROPS nor SNOW save, and SHEETS in which nothing is otherwise than it. */
+    private static final String LOST = """
+        house(0, 1, 7, 0); set(0, 4, 100); seed(9); text "fee r*2"; keep(); set(0, 3, 5); tell(0); tell(100)
+        sheet(0, 0, 1); mark(0, 0, 7); sheet(1, 1, 2); mark(1, 0, NONE); mark(1, 1, NONE); lay(0, 2, 0); lay(1, 2, 1)
+        tape "fee r+d*7"
+        """;
 
     private static final Map<String, List<List<Integer>>> DUE = new HashMap<>();
 
@@ -110,7 +119,7 @@ public final class RefusalsTest {
         within("20", "began(0, ?, 0)", 0, 60, "BAD");
         within("20", "began(0, 1, ?)", 0, 1, "BAD");
         within("24", "trim(?)", 0, 9, "BAD");
-        within("26", "textTold(?, 0)", 0, 1, "BAD");
+        within("26", "textTold(?, 0)", 0, 2, "BAD");
         within("26", "textTold(1, ?)", 0, 1, "BAD");
         within("27", "why(?)", 0, 2, "BAD");
         within("41", "count(?)", 0, 7, "BAD");
@@ -161,6 +170,7 @@ public final class RefusalsTest {
         refused("35", SOME, "item(4, 0) = NOTHING; item(0, 0) = KIND; item(2, 0) = KIND; item(1, 0) = KIND");
         refused("36", SOME, "rest(4, 1) = NOTHING; rest(0, 1) = KIND; rest(1, 1) = KIND; rest(2, 0) = NO");
         refused("4", SOME, "as(0, 1) = KIND; as(1, 3) = KIND; as(4, 5) = KIND");
+        refused("40", UNKEPT, "back() = NO");
         refused("40", NEW, "back() = NO");
         refused("15 to 20", NEW, "lasts() = NONE; wall(1, 0) = NONE; began(0, 1, 0) = NOTHING; fine(0) = BAD; fells(0) = BAD; told(0, 0) = BAD");
     }
@@ -176,6 +186,7 @@ public final class RefusalsTest {
         Runs.isInTheDocument(said);
         String none = SOME.replaceAll("tell\\(\\d+\\);?", "");
         unlike("38 '" + said + "'", SOME, none, "check(0) = BAD; check(31) = BAD; check(LOW) = BAD; check(HIGH) = BAD; check(1) = 3; check(30) = 4");
+        unlike("38 '" + said + "'", UNKEPT, none.replace("keep();", ""), "check(1) = NO; check(30) = NO; check(0) = BAD; check(31) = BAD");
         unlike("38 '" + said + "'", "tell(7)", NEW, "check(1) = NO; check(30) = NO; check(0) = BAD; check(31) = BAD");
         String full = FULL.replaceAll("tell\\(\\d+\\);?", "");
         unlike("38 '" + said + "'", FULL, full, "check(30) = 0; check(29) = 59; check(1) = 3; check(31) = BAD");
@@ -188,9 +199,11 @@ public final class RefusalsTest {
         String calls = "behind(100, 0); behind(7, 1); lasts(); taken(0, 60); taken(3, 1); propped(40); propped(1); wall(60, 1); wall(1, 0); snows(60); began(0, 60, 1); began(1, 0, 0); fee(); fine(2);";
         calls += "told(0, 9); as(4, 2); street(4); textTold(0, 1); why(0); reads(0); reads(1); ask(0, 0); item(1, 4); rest(2, 5); count(1)";
         for (String call : calls.split(";")) {
-            asIfNotMade("3 '" + said + "', behind " + call.strip(), toldOf(SOME, call.strip()), SOME);
-            asIfNotMade("3 '" + said + "', behind " + call.strip(), toldOf(FULL, call.strip()), FULL);
+            for (String ready : new String[] {SOME, FULL, UNKEPT, LOST}) {
+                asIfNotMade("3 '" + said + "', behind " + call.strip(), toldOf(ready, call.strip()), ready);
+            }
         }
+        refused("17, 19, 31", LOST, "propped(1) = NONE; propped(40) = NONE; snows(1) = NONE; snows(60) = NONE; reads(0) = NONE; reads(1) = NONE");
     }
 
     public static void main(String[] args) {

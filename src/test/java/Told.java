@@ -3,7 +3,7 @@ import java.util.List;
 
 /** All that later calls show of an object, in parts, each for an object of its own since telling it uses it up. */
 final class Told {
-    static final int PARTS = 3;
+    static final int PARTS = 4;
     private static final int HOUSES = 9, TEXTS = 14, KEYS = 3, SHEETS = 4, PLACES = 24, SLOTS = 5, KINDS = 6;
 
     private Told() { }
@@ -17,6 +17,7 @@ final class Told {
             told.add(x.behind(9, 1));
         } else if (part == 1) {
             slots(x, told);
+        } else if (part == 2) {
             sheets(x, told);
         } else {
             tape(x, told);
